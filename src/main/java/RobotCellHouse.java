@@ -1108,11 +1108,12 @@ public final class RobotCellHouse {
         /** Whether the place p is no farther than reach from the line that goes from 0 to d. */
         private static boolean nearPlace(int dx, int dy, int px, int py, int reach) {
             long limit = (long) reach * reach;
+            long far = (long) px * px + (long) py * py;
             long along = (long) dx * px + (long) dy * py;
-            if (along <= 0) return square(px, py) <= limit;
-            long length = square(dx, dy);
-            if (along >= length) return square(px - dx, py - dy) <= limit;
-            long across = side(dx, dy, px, py);
+            if (along <= 0) return far <= limit;
+            long length = (long) dx * dx + (long) dy * dy;
+            if (along >= length) return far - 2 * along + length <= limit;
+            long across = (long) dx * py - (long) dy * px;
             return across * across <= limit * length;
         }
 
@@ -1219,7 +1220,8 @@ public final class RobotCellHouse {
         final int[] length = new int[MOST_BELTS], speed = new int[MOST_BELTS];
         final int[] point = new int[MOST_BELTS], from = new int[MOST_BELTS], to = new int[MOST_BELTS];
         private final int[] x = new int[MOST_BELTS], y = new int[MOST_BELTS];
-        private final int[] quarter = new int[MOST_BELTS], width = new int[MOST_BELTS];
+        private final int[] stepX = new int[MOST_BELTS], stepY = new int[MOST_BELTS];
+        private final int[] width = new int[MOST_BELTS];
         private final int[][] order = new int[MOST_BELTS][MOST_PARTS];
         private final int[] ordered = new int[MOST_BELTS];
         // A part's belt, IN_HAND and its arm, or LIES; its way on the belt; its place where it lies.
@@ -1241,7 +1243,8 @@ public final class RobotCellHouse {
             int b = belts;
             x[b] = atX;
             y[b] = atY;
-            quarter[b] = towards;
+            stepX[b] = along(towards);
+            stepY[b] = up(towards);
             length[b] = longest;
             width[b] = wide;
             speed[b] = 0;
@@ -1295,12 +1298,12 @@ public final class RobotCellHouse {
 
         int xOf(int p) {
             int b = where[p];
-            return b < MOST_BELTS ? x[b] + way[p] * along(quarter[b]) : placeX[p];
+            return b < MOST_BELTS ? x[b] + way[p] * stepX[b] : placeX[p];
         }
 
         int yOf(int p) {
             int b = where[p];
-            return b < MOST_BELTS ? y[b] + way[p] * up(quarter[b]) : placeY[p];
+            return b < MOST_BELTS ? y[b] + way[p] * stepY[b] : placeY[p];
         }
 
         /** The nearest part that no arm holds, within reach of a place; -1 for none. */
@@ -1336,8 +1339,8 @@ public final class RobotCellHouse {
             for (int b = 0; b < belts; b++) {
                 int dx = atX - x[b];
                 int dy = atY - y[b];
-                int s = dx * along(quarter[b]) + dy * up(quarter[b]);
-                int across = Math.abs(dx * up(quarter[b]) - dy * along(quarter[b]));
+                int s = dx * stepX[b] + dy * stepY[b];
+                int across = Math.abs(dx * stepY[b] - dy * stepX[b]);
                 if (within(s, 0, length[b]) && across <= width[b]) {
                     comeTo(b, p, s);
                     return;
@@ -1506,15 +1509,15 @@ public final class RobotCellHouse {
         }
 
         void patch(int at, int operand) {
-            if (within(at, 0, length - 1)) rows[at] = operand << OP_BITS | rows[at] & OP_MASK;
+            if (at >= 0 && at < length) rows[at] = operand << OP_BITS | rows[at] & OP_MASK;
         }
 
         int op(int at) {
-            return within(at, 0, length - 1) ? rows[at] & OP_MASK : OP_LAST;
+            return at >= 0 && at < length ? rows[at] & OP_MASK : OP_LAST;
         }
 
         int operand(int at) {
-            return within(at, 0, length - 1) ? rows[at] >> OP_BITS : 0;
+            return at >= 0 && at < length ? rows[at] >> OP_BITS : 0;
         }
     }
 
@@ -1692,6 +1695,7 @@ public final class RobotCellHouse {
 
         int excuse(int arm) {
             int t = arms[arm].faulted;
+            if (t < 0) return NO;
             tasks[t].state = ENDED;
             arms[arm].faulted = -1;
             return t;
@@ -1728,19 +1732,30 @@ public final class RobotCellHouse {
             goOn(t);
             int begun = 0;
             for (int i = 0; i < MOST_INSTRUCTIONS && t.state == READY; i++) {
+                int op = code.op(t.pc);
+                int n = code.operand(t.pc);
                 if (raised) {
-                    raised = false;
-                    top = 0;
-                    if (!t.leave(code, Task.BY_ERROR, raisedError)) failBy(t, raisedError);
-                } else if (code.op(t.pc) != OP_BEGIN) {
-                    obey(t, code);
-                } else if (begun == MOST_BEGUN) {
-                    return;
-                } else if (!watchCalls(t, code)) {
+                    leaveByError(t, code);
+                } else if (op == OP_BEGIN) {
+                    if (begun == MOST_BEGUN) return;
+                    if (watchCalls(t, code)) continue;
                     begun++;
                     t.pc++;
+                } else {
+                    t.pc++;
+                    if (op <= OP_HOLDING) look(t, op, n);
+                    else if (op <= OP_AND) changeTop(t, op, n);
+                    else if (op <= OP_AT_LEAST) combine(op, pop(), pop());
+                    else if (op <= OP_WATCH) act(t, code, op, n);
+                    else lead(t, code, op, n);
                 }
             }
+        }
+
+        private void leaveByError(Task t, Code code) {
+            raised = false;
+            top = 0;
+            if (!t.leave(code, Task.BY_ERROR, raisedError)) failBy(t, raisedError);
         }
 
         /** Looks whether a task that waits goes on. */
@@ -1816,24 +1831,13 @@ public final class RobotCellHouse {
             return stack[top];
         }
 
-        private void obey(Task t, Code code) {
-            int op = code.op(t.pc);
-            int n = code.operand(t.pc);
-            t.pc++;
-            if (op <= OP_HOLDING) look(t, op, n);
-            else if (op <= OP_AND) changeTop(t, op, n);
-            else if (op <= OP_AT_LEAST) combine(op, pop(), pop());
-            else if (op <= OP_WATCH) act(t, code, op, n);
-            else lead(t, code, op, n);
-        }
-
         private void look(Task t, int op, int n) {
             Arm arm = arms[t.arm];
             switch (op) {
                 case OP_PUSH: push(n); break;
                 case OP_LOW: push(pop() << 16 | n); break;
                 case OP_READ: push(arm.variable[n]); break;
-                case OP_SIGNAL: pushOne(points.value, POINTS, pop()); break;
+                case OP_SIGNAL: pushSignal(pop()); break;
                 case OP_JOINT: pushJoint(arm, pop()); break;
                 case OP_TIME: push(core.time); break;
                 case OP_CAUGHT: push(t.caught); break;
@@ -1842,8 +1846,8 @@ public final class RobotCellHouse {
             }
         }
 
-        private void pushOne(int[] row, int length, int i) {
-            if (within(i, 0, length - 1)) push(row[i]);
+        private void pushSignal(int p) {
+            if (isPoint(p)) push(points.value[p]);
             else raise(2);
         }
 
@@ -2109,7 +2113,7 @@ public final class RobotCellHouse {
                 takeValues(arm, queue[head]);
                 for (int step = 0; step < 2 * arm.joints; step++) {
                     int next = neighbour(queue[head], step);
-                    if (next < 0 || came[next] != 0) continue;
+                    if (next < 0 || came[next] != 0 || tail >= MOST_NODES) continue;
                     if (!passes(arms, count, shapes, a, step, next)) continue;
                     came[next] = step + 1;
                     queue[tail] = next;
@@ -2260,19 +2264,15 @@ public final class RobotCellHouse {
         // ---- tokens
 
         private int byteAt(int i) {
-            return within(i, 0, length - 1) ? text[i] & 255 : 0;
-        }
-
-        private static boolean isLetter(int c) {
-            return within(c, 'a', 'z') || within(c, 'A', 'Z');
+            return i >= 0 && i < length ? text[i] & 255 : 0;
         }
 
         private static boolean isDigit(int c) {
-            return within(c, '0', '9');
+            return c >= '0' && c <= '9';
         }
 
         private static boolean isOfName(int c) {
-            return isLetter(c) || isDigit(c);
+            return c >= 'a' && c <= 'z' || c >= 'A' && c <= 'Z' || c >= '0' && c <= '9';
         }
 
         private void advance() {
@@ -2280,8 +2280,8 @@ public final class RobotCellHouse {
             at = next;
             int c = byteAt(next);
             if (next >= length) kind = TEXT_END;
-            else if (isLetter(c)) readWord();
             else if (isDigit(c)) readNumber();
+            else if (isOfName(c)) readWord();
             else readSign(c);
         }
 
@@ -2307,7 +2307,7 @@ public final class RobotCellHouse {
             for (int i = 0; i < KEYWORDS.length(); i++) {
                 char c = KEYWORDS.charAt(i);
                 if (c != ' ') {
-                    alike = alike && same < next && byteAt(same) == c;
+                    alike = alike && same < next && text[same] == c;
                     same++;
                 } else if (alike && same == next) {
                     return keyword;
@@ -2490,10 +2490,10 @@ public final class RobotCellHouse {
                 case RUN: withRoutine(OP_RUN); break;
                 case RAISE: withNumber(OP_RAISE); break;
                 case NOTE: withNumber(OP_NOTE); break;
-                case GRIP: bare(OP_GRIP, 0); break;
-                case DROP: bare(OP_DROP, 0); break;
+                case GRIP: bare(OP_GRIP); break;
+                case DROP: bare(OP_DROP); break;
                 case WATCH: watching(); break;
-                case RETURN: bare(OP_RETURN, 0); break;
+                case RETURN: bare(OP_RETURN); break;
                 case BREAK: breaking(); break;
                 case IF: choice(); break;
                 case WHILE: repetition(); break;
@@ -2501,10 +2501,10 @@ public final class RobotCellHouse {
             }
         }
 
-        private void bare(int op, int operand) {
+        private void bare(int op) {
             advance();
             accept(SEMICOLON);
-            code.emit(op, operand);
+            code.emit(op, 0);
         }
 
         private void withNumber(int op) {
@@ -2558,13 +2558,18 @@ public final class RobotCellHouse {
         private void watching() {
             advance();
             exp();
-            if (kind == COMMA) withRoutine(OP_WATCH);
-            else refuse();
+            accept(COMMA);
+            int name = at;
+            accept(WORD);
+            accept(SEMICOLON);
+            code.emit(OP_WATCH, name);
         }
 
         private void breaking() {
             if (loop < 0) complain(6, at);
-            bare(OP_BREAK, Math.max(loop, 0));
+            advance();
+            accept(SEMICOLON);
+            code.emit(OP_BREAK, Math.max(loop, 0));
         }
 
         private void choice() {
