@@ -1186,7 +1186,7 @@ public final class RobotCellHouse {
                     placed++;
                 }
             }
-            for (int i = 0; i < placed; i++) {
+            for (int i = 0; i < placed && placed < POINTS; i++) {
                 for (int p = 0; p < POINTS; p++) {
                     if (source[p] == order[i] && placed < POINTS) {
                         order[placed] = p;

@@ -81,6 +81,13 @@ public final class BeltsTest {
         Due.is("its rises", x.signal(5, 2), 2);
         Due.is("the sensor that it had", x.signal(1, 1), 0);
         Due.is("a belt without parts", x.signal(6, 1), 0);
+        RobotCellHouse y = new RobotCellHouse();
+        y.belt(0, 0, 0, 1000, 0);
+        y.part(0, 0, 0);
+        y.open();
+        y.set(0, 5);
+        y.run(1);
+        Due.is("a belt without a sensor", y.signal(0, 1), 5);
     }
 
     private static RobotCellHouse cell(int reach, String text) {
@@ -113,6 +120,13 @@ public final class BeltsTest {
         Due.is("its s", x.about(0, 3), 0);
         Due.is("the hand is empty", x.state(0, 2), -1);
         Due.eventsAre("grips", x, "0:3(0,0) 1:6(0,0) 1:1(0,1) 1:1(0,7) 2:8(0,2) 3:7(0,0) 3:1(0,0) 3:1(0,7) 3:4(0,0)");
+        RobotCellHouse up = cell(5, "to r: grip; end");
+        up.lay(3, 104, 3);
+        up.open();
+        up.hand(0, 0, 1024);
+        up.start(0, 0);
+        up.run(1);
+        Due.is("above its base", up.state(0, 2), 0);
         RobotCellHouse y = cell(4, "to r: grip; end");
         y.lay(103, 4, 3);
         y.open();
@@ -199,6 +213,26 @@ public final class BeltsTest {
         y.run(1);
         waysAre("between two, later", y, 110, 120, 101);
         Due.is("never(3)", y.never(3), 0);
+        // The one in the middle is taken away: those behind it come nearer, in their order.
+        RobotCellHouse z = cell(1, "to r: grip; end");
+        z.belt(100, -200, 1, 260, 0);
+        z.part(0, 190, 10);
+        z.part(0, 220, 10);
+        z.part(0, 200, 5);
+        z.part(0, 180, 5);
+        z.drive(0, 50);
+        z.open();
+        z.start(0, 0);
+        z.run(1);
+        Due.is("the middle one", z.state(0, 2), 2);
+        waysAre("without it", z, 240, 260, 0, 225);
+        z.build();
+        z.belt(0, 0, 0, 100, 0);
+        z.drive(0, 1);
+        z.part(0, 10, 0);
+        z.open();
+        z.run(1);
+        waysAre("a new belt", z, 11);
     }
 
     private static void heldBody() {

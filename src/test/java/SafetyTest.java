@@ -11,6 +11,7 @@ public final class SafetyTest {
         tripsByTouch();
         firstArm();
         zones();
+        zoneOfAnotherArm();
         zoneByHand();
         phases();
         events();
@@ -89,6 +90,9 @@ public final class SafetyTest {
         x.run(1);
         Due.is("the fourth tick", x.safety(4), 2);
         causeIs("trip by it", x, 1, 0, 4);
+        x.back(1);
+        x.run(2);
+        Due.is("but back() does", x.safety(4), 0);
     }
 
     private static void resets() {
@@ -182,6 +186,12 @@ public final class SafetyTest {
         x.reset(0);
         x.run(1);
         causeIs("the arm of the pair", x, 2, 2, 1);
+        RobotCellHouse z = arms();
+        z.ball(2006, 300, 5);
+        z.open();
+        z.reset(0);
+        z.run(1);
+        Due.is("with margin 0", z.safety(0), 1);
         RobotCellHouse y = arms();
         y.arm(2000, 300, 0, 0);
         y.joint(3, 0, 0, 0, 10);
@@ -242,6 +252,18 @@ public final class SafetyTest {
         f.reset(0);
         f.run(1);
         causeIs("a touch comes ahead of a zone", f, 2, 0, 4);
+    }
+
+    private static void zoneOfAnotherArm() {
+        RobotCellHouse x = arms();
+        x.zone(2, 950, 550, 100, 100);
+        x.zone(1, 950, 550, 100, 100);
+        x.open();
+        x.reset(0);
+        x.run(1);
+        causeIs("each zone has its arm", x, 3, 1, 1);
+        x.back(0);
+        causeIs("no trip at open()", x, 0, 0, 0);
     }
 
     /** Where it was is where it was behind the tick before, whatever a hand did since. */

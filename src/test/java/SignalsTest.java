@@ -46,6 +46,9 @@ public final class SignalsTest {
         x.force(9, 0, true);
         x.force(9, 0, false);
         Due.is("a rise when it is forced no more", x.signal(9, 2), 2);
+        x.force(0, 3, true);
+        x.back(0);
+        Due.is("no force at open()", x.signal(0, 0), 0);
         Due.is("force(64)", x.force(64, 0, true), BAD);
         Due.is("force(-1)", x.force(-1, 0, true), BAD);
     }

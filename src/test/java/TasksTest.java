@@ -7,6 +7,7 @@ public final class TasksTest {
         leftAndRight();
         errors();
         turns();
+        parts();
         twenty();
         routines();
         waits();
@@ -67,6 +68,12 @@ public final class TasksTest {
         value("a != 7", 0);
         value("a < 7", 0);
         value("a <= 7", 1);
+        value("a <= 6", 0);
+        value("a < 8", 1);
+        value("a = 6", 0);
+        value("a != 6", 1);
+        value("b > -4", 1);
+        value("b >= -2", 0);
         value("b > -3", 0);
         value("b >= -3", 1);
         value("a - 4 = 3", 1);
@@ -157,6 +164,15 @@ public final class TasksTest {
         Due.eventsAre("turns", x, "2:4(1,0) 2:1(2,1) 2:4(2,0) 3:1(0,1) 3:4(0,0)");
     }
 
+    private static void parts() {
+        does("to r: if 0: note 1; else: note 2; end note 3; end", 1, "1:1(0,2) 1:1(0,3) 1:4(0,0)");
+        does("to r: if -5: note 1; else: note 2; end note 3; end", 1, "1:1(0,1) 1:1(0,3) 1:4(0,0)");
+        does("to r: if 0: note 1; end note 3; end", 1, "1:1(0,3) 1:4(0,0)");
+        does("to r: while 0: note 1; end note 3; end", 1, "1:1(0,3) 1:4(0,0)");
+        does("var a; to r: while a < 3: a = a + 1; if a = 2: note 2; else: if a = 3: note 3; else: note 1; end end end end", 1,
+                "1:1(0,1) 1:1(0,2) 1:1(0,3) 1:4(0,0)");
+    }
+
     private static void twenty() {
         RobotCellHouse x = house("var a; to r: while 1: a = a + 1; end end");
         x.start(0, 0);
@@ -232,6 +248,11 @@ public final class TasksTest {
         x.run(1);
         Due.is("a fault frees 0", x.lock(0), -1);
         Due.is("a fault frees 7", x.lock(7), -1);
+        RobotCellHouse y = house("to r: wait 1; take 0; note time; end to s: take 0; wait 3; end");
+        y.start(0, 0);
+        y.start(0, 1);
+        y.run(5);
+        Due.eventsAre("the first task waits", y, "4:4(1,0) 5:1(0,5) 5:4(0,0)");
         Due.is("lock(8)", x.lock(8), BAD);
         Due.is("lock(-1)", x.lock(-1), BAD);
     }
@@ -293,6 +314,8 @@ public final class TasksTest {
         // Not while a routine that a watch called is done, but behind it.
         does("var a; to r: watch 0, s; set 0, 1; note 1; end to s: a = a + 1; if a < 3: set 0, 0; set 0, 1; end note 2; end",
                 1, "1:1(0,2) 1:1(0,2) 1:1(0,2) 1:1(0,1) 1:4(0,0)");
+        does("var a; to r: watch 0, s; set 0, 1; note 1; end to s: note 5; a = a + 1; if a < 2: set 0, 0; set 0, 1; end call t; note 6; end "
+                + "to t: note 7; end", 2, "1:1(0,5) 1:1(0,7) 1:1(0,6) 1:1(0,5) 1:1(0,7) 1:1(0,6) 1:1(0,1) 1:4(0,0)");
         // No statement follows the last one: nothing is looked at.
         does("to r: watch 0, s; set 0, 1; end to s: note 2; end", 1, "1:4(0,0)");
         // Ahead of each test of a while, too; the call counts as no statement.

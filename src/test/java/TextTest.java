@@ -50,6 +50,7 @@ public final class TextTest {
                 + "grip;drop;watch 1,r;return;while 1:break;end if 1:end if 1:else:end try:end try:catch:end "
                 + "try:finally:end try:catch:finally:end end", 1);
         good("to abcdefghijklmnopqrstuvwx:end", 1);
+        good("to yzABCDEFGHIJKLMNOPQRSTUV:end to WXYZ0123456789:end to Z:end to A9:end", 4);
         good("var End;to To:End=0002147483647;end", 1);
         good("to r:note 1end:end".replace("1end:", "1;"), 1);
     }
@@ -181,6 +182,10 @@ public final class TextTest {
         Due.is("fault(2)", x.fault(2), BAD);
         Due.is("fault(-1)", x.fault(-1), BAD);
         Due.is("another program", x.program(0), 1);
+        Due.is("one with a name told twice", Due.program(x, 0, "var a,a;"), -16);
+        Due.is("and a good one behind it", Due.program(x, 0, "to r: end"), 1);
+        Due.is("fault(0)", x.fault(0), 0);
+        Due.is("its place", x.fault(1), -1);
         Due.is("it is in place of the old one", x.variable(0, 0), BAD);
         x.build();
         Due.is("fault(0) behind build()", x.fault(0), 0);
