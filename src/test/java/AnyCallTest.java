@@ -47,9 +47,9 @@ public final class AnyCallTest {
         Method[] calls = Arrays.stream(RobotCellHouse.class.getDeclaredMethods())
                 .filter(m -> Modifier.isPublic(m.getModifiers()))
                 .sorted(Comparator.comparing(Method::getName)).toArray(Method[]::new);
-        for (int seed = 1; seed <= 300; seed++) {
-            long first = new AnyCallTest(seed).answers(calls, 700);
-            long second = new AnyCallTest(seed).answers(calls, 700);
+        for (int seed = 1; seed <= 600; seed++) {
+            long first = new AnyCallTest(seed).answers(calls, 300);
+            long second = new AnyCallTest(seed).answers(calls, 300);
             Due.is("run " + seed + " twice", first == second ? 1 : 0, 1);
         }
         // More calls than an object is promised for: they are free in what they answer, not in that they end.

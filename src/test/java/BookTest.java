@@ -7,6 +7,7 @@ public final class BookTest {
         rows();
         backToEachRow();
         whatStays();
+        twoThousandRows();
         Due.end();
     }
 
@@ -149,6 +150,29 @@ public final class BookTest {
             Due.is("all behind the rest from row " + n, all(x) == end ? 1 : 0, 1);
             for (int what = 0; what < 4; what++) Due.is("never(" + what + ")", x.never(what), 0);
         }
+    }
+
+    /** More calls than the 512 that are promised: no others can fill the book, so they are held to the document, too. */
+    private static void twoThousandRows() {
+        RobotCellHouse x = cell();
+        for (int i = 1; i < 2000; i++) x.set(9, i);
+        Due.is("the last row", x.set(9, 2000), 1999);
+        Due.is("rows", x.count(6), 2000);
+        int[] full = {x.start(0, 0), x.run(1), x.set(9, 7), x.force(9, 7, true), x.channel(0, false, false), x.reset(0), x.stop(0),
+            x.hand(0, 0, 5), x.aim(0, 5), x.plan(1, 1, 0)};
+        for (int i = 0; i < full.length; i++) Due.is("call " + i + " of a full book", full[i], FULL);
+        int[] bad = {x.start(0, 9), x.run(0), x.set(64, 7), x.hand(0, 0, 201), x.aim(6, 0), x.back(2001)};
+        for (int i = 0; i < bad.length; i++) Due.is("BAD is asked ahead of it, call " + i, bad[i], BAD);
+        int[] no = {x.reset(1), x.stop(-1), x.acknowledge(0), x.travel(1)};
+        for (int i = 0; i < no.length; i++) Due.is("NO is asked ahead of it, call " + i, no[i], NO);
+        Due.is("nothing has changed", x.signal(9, 0), 2000);
+        Due.is("no task", x.task(0, 0), 0);
+        Due.is("no tick", x.time(), 0);
+        Due.is("no way", x.state(1, 5), -1);
+        Due.is("all rows", x.back(2000), 0);
+        Due.is("one less", x.back(1999), 0);
+        Due.is("there is room for one", x.set(9, 7), 1999);
+        Due.is("and for no more", x.set(9, 8), FULL);
     }
 
     private static void whatStays() {

@@ -7,6 +7,8 @@ public final class BuildingTest {
         newObject();
         tape();
         build();
+        nothingIsLeft();
+        touchesAnew();
         arms();
         joints();
         paceAndRadius();
@@ -45,7 +47,9 @@ public final class BuildingTest {
         Due.is("count(7)", x.count(7), 4000);
         Due.is("cut(1)", x.cut(1), 3999);
         Due.is("feed beyond 4000 by one byte less", x.feed(0, 0, 0, 0, 0), FULL);
-        Due.is("cut(19)", x.cut(19), 3980);
+        Due.is("cut(18)", x.cut(18), 3981);
+        Due.is("feed beyond 4000 by one byte", x.feed(0, 0, 0, 0, 0), FULL);
+        Due.is("cut(1) again", x.cut(1), 3980);
         Due.is("feed up to 4000", x.feed(0, 0, 0, 0, 0), 4000);
         Due.is("cut(-1)", x.cut(-1), BAD);
         Due.is("cut(4001)", x.cut(4001), BAD);
@@ -88,6 +92,73 @@ public final class BuildingTest {
         Due.is("joints of a new arm", x.state(0, 1), 0);
         x.open();
         Due.is("a person behind build()", x.reset(2), NO);
+    }
+
+    /** What a cell was built of, and what happened in it, is not in the next one. */
+    private static void nothingIsLeft() {
+        RobotCellHouse x = new RobotCellHouse();
+        x.arm(0, 0, 0, 9);
+        x.joint(0, 0, 0, 0, 100);
+        x.radius(0, 0, 7);
+        x.pace(0, 0, 2000, 2000);
+        x.ball(50, 0, 5);
+        x.spare(0, 0, 0);
+        x.belt(0, 0, 0, 900, 9);
+        x.drive(0, 50);
+        x.sensor(0, 3, 0, 900);
+        for (int p = 0; p < 32; p++) x.part(0, 20 * p, 1);
+        x.zone(0, 500, 500, 1, 1);
+        x.most(0, 9);
+        x.input(7);
+        for (int p = 0; p < 8; p++) x.person(p, true);
+        x.wire(0, 1, true);
+        Due.program(x, 0, "var a; to r: end");
+        x.open();
+        x.force(2, 5, true);
+        x.channel(0, true, false);
+        x.aim(0, 4);
+        x.run(9);
+        Due.is("build()", x.build(), 9);
+        x.arm(0, 0, 0, 0);
+        Due.is("program", x.state(0, 4), 0);
+        Due.is("variable", x.variable(0, 0), BAD);
+        x.joint(0, 0, 0, 0, 100);
+        x.ball(50, 0, 5);
+        Due.is("nothing is spared", x.touches(0, 0), 1);
+        Due.is("spare", x.spare(0, 0, 0), 1);
+        Due.is("radius", x.radius(0, 0, 0), 0);
+        x.belt(5, 0, 0, 900, 9);
+        Due.is("drive", x.drive(0, 0), 0);
+        Due.is("part", x.part(0, 44, 1), 0);
+        Due.is("its belt", x.about(0, 0), 0);
+        Due.is("its way", x.about(0, 3), 44);
+        x.zone(0, 500, 500, 1, 1);
+        Due.is("most", x.most(0, -1), -1);
+        x.input(0);
+        Due.is("the input", x.safety(4), 1);
+        Due.is("a wire", x.wire(2, 1, false), 0);
+        x.open();
+        for (int p = 0; p < 8; p++) Due.is("reset by " + p, x.reset(p), NO);
+        Due.is("a force", x.signal(2, 0), 0);
+        x.run(1);
+        Due.is("a sensor", x.signal(3, 0), 0);
+        Due.is("the aims", x.plan(0, 1, 0), 0);
+    }
+
+    /** That no pair touched in the old cell says nothing of the new one. */
+    private static void touchesAnew() {
+        RobotCellHouse x = new RobotCellHouse();
+        for (int time = 0; time < 2; time++) {
+            x.build();
+            x.person(0, true);
+            x.arm(0, 0, 0, 0);
+            x.joint(0, 0, 0, 0, 100);
+            x.ball(100, 50 - 50 * time, 5);
+            x.open();
+            x.reset(0);
+            x.run(1);
+            Due.is("power in cell " + time, x.safety(0), 1 - time);
+        }
     }
 
     private static void arms() {

@@ -11,12 +11,15 @@ public final class EdgesOfCellTest {
         risesBySensors();
         forcedAheadOfWired();
         rings();
+        wiresDownwards();
         frontOfBelts();
         noBelt();
         thirtyTwoOnABelt();
         sensorEdges();
         sensorsOfOnePoint();
         droppedAmongEqual();
+        heldByEachArm();
+        grippedFromABelt();
         differs();
         thousandDiffers();
         whichChannel();
@@ -24,8 +27,10 @@ public final class EdgesOfCellTest {
         zoneEdges();
         zonesByMost();
         leastZone();
+        eightZones();
         zoneBehindTouch();
         firstTickOfZone();
+        touchesBehindBack();
         tripOfArms();
         noTripWithoutPower();
         causeOfTheLatest();
@@ -153,11 +158,33 @@ public final class EdgesOfCellTest {
         Due.is("a ring of three", x.wire(3, 1, true), NO);
         Due.is("a second one to it", x.wire(0, 2, false), NO);
         Due.is("the same again", x.wire(1, 2, false), NO);
+        Due.is("wire from 0", x.wire(0, 7, false), 0);
+        Due.is("a second one to that", x.wire(8, 7, false), NO);
         Due.is("two from one", x.wire(1, 4, true), 0);
         Due.is("to the beginning of the row", x.wire(0, 1, false), 0);
         Due.is("a ring of four", x.wire(3, 0, false), NO);
         x.build();
         Due.is("no wires behind build()", x.wire(2, 1, false), 0);
+    }
+
+    /** From greater numbers to lesser ones, down to 0, told in any order. */
+    private static void wiresDownwards() {
+        RobotCellHouse x = new RobotCellHouse();
+        x.wire(20, 10, false);
+        x.wire(63, 30, true);
+        x.wire(10, 0, true);
+        x.wire(30, 20, false);
+        int[] points = {30, 20, 10};
+        for (int p : points) Due.is("point " + p, x.signal(p, 0), 1);
+        Due.is("point 0", x.signal(0, 0), 0);
+        x.open();
+        x.set(63, 7);
+        for (int p : points) Due.is("point " + p + " then", x.signal(p, 0), 0);
+        Due.is("point 0 then", x.signal(0, 0), 1);
+        Due.is("rises of 0", x.signal(0, 2), 1);
+        x.force(20, 5, true);
+        Due.is("point 0 by a force", x.signal(0, 0), 0);
+        Due.is("point 10 by a force", x.signal(10, 0), 5);
     }
 
     private static void wayIs(RobotCellHouse x, int part, int due) {
@@ -281,6 +308,58 @@ public final class EdgesOfCellTest {
         wayIs(x, 2, 129);
         wayIs(x, 0, 120);
         wayIs(x, 1, 113);
+    }
+
+    private static void heldByEachArm() {
+        RobotCellHouse x = new RobotCellHouse();
+        for (int b = 0; b < 4; b++) x.belt(9000, 9000, 3, 10, 0);
+        for (int a = 0; a < 4; a++) {
+            x.arm(2000 * a, 100 * a, 0, 5);
+            x.joint(a, 0, 0, 0, 50);
+            x.lay(2000 * a + 53, 100 * a - 4, 1);
+            Due.program(x, a, "to r: grip; end to d: drop; end");
+        }
+        x.open();
+        for (int a = 0; a < 4; a++) x.start(a, 0);
+        x.run(1);
+        for (int a = 0; a < 4; a++) {
+            Due.is("held by arm " + a, x.about(a, 0), 4 + a);
+            Due.is("its x", x.about(a, 1), 2000 * a + 50);
+            Due.is("its y", x.about(a, 2), 100 * a);
+            Due.is("its s", x.about(a, 3), 0);
+            Due.is("the part of arm " + a, x.state(a, 2), a);
+            x.start(a, 1);
+        }
+        x.run(1);
+        for (int a = 0; a < 4; a++) {
+            Due.is("part " + a + " lies", x.about(a, 0), 8);
+            Due.is("where it was dropped, x", x.about(a, 1), 2000 * a + 50);
+            Due.is("where it was dropped, y", x.about(a, 2), 100 * a);
+        }
+        Due.is("never(3)", x.never(3), 0);
+    }
+
+    /** What is gripped is on its belt no more: the sensor and the others do not see it. */
+    private static void grippedFromABelt() {
+        for (int parts = 1; parts <= 32; parts += 31) {
+            RobotCellHouse x = new RobotCellHouse();
+            x.arm(100, 0, 0, 0);
+            x.belt(0, 0, 0, 1000, 0);
+            x.sensor(0, 5, 100, 1000);
+            for (int p = 0; p < parts; p++) x.part(0, 100 - p, 1);
+            Due.program(x, 0, "to r: grip; wait 1; drop; end");
+            x.open();
+            x.run(1);
+            Due.is("the sensor sees it", x.signal(5, 0), 1);
+            x.start(0, 0);
+            x.run(1);
+            Due.is("it is held", x.about(0, 0), 4);
+            Due.is("the sensor sees none", x.signal(5, 0), 0);
+            x.run(1);
+            Due.is("it is on the belt again", x.about(0, 0), 0);
+            Due.is("the sensor sees it again", x.signal(5, 0), 1);
+            Due.is("never(3)", x.never(3), 0);
+        }
     }
 
     private static void differs() {
@@ -425,6 +504,24 @@ public final class EdgesOfCellTest {
         Due.is("the least that is broken", x.safety(2), 1);
     }
 
+    private static void eightZones() {
+        RobotCellHouse x = new RobotCellHouse();
+        x.person(0, true);
+        x.arm(0, 0, 0, 0);
+        x.joint(0, 1, 0, 50, 100);
+        for (int z = 0; z < 8; z++) x.zone(0, 110 + z, -5, 100, 10);
+        for (int z = 0; z < 7; z++) x.most(z, 1000);
+        x.pace(0, 0, 1, 1);
+        Due.program(x, 0, "to r: move 50; end");
+        x.open();
+        x.reset(0);
+        x.start(0, 0);
+        x.run(16);
+        Due.is("none of eight", x.safety(1), 0);
+        x.run(1);
+        Due.is("the last of eight", x.safety(1) * 10 + x.safety(2), 37);
+    }
+
     private static void zoneBehindTouch() {
         RobotCellHouse x = new RobotCellHouse();
         x.person(0, true);
@@ -462,6 +559,24 @@ public final class EdgesOfCellTest {
         x.reset(0);
         x.run(1);
         Due.is("11 from open(), behind back()", x.safety(1), 3);
+    }
+
+    /** It touches at open(); that it did not touch elsewhere says nothing of that. */
+    private static void touchesBehindBack() {
+        RobotCellHouse x = new RobotCellHouse();
+        x.person(0, true);
+        x.arm(0, 0, 0, 0);
+        x.joint(0, 0, 0, 1024, 100);
+        x.ball(100, 0, 5);
+        x.open();
+        x.hand(0, 0, 500);
+        x.reset(0);
+        x.run(2);
+        Due.is("it does not touch", x.safety(0), 1);
+        x.back(0);
+        x.reset(0);
+        x.run(1);
+        Due.is("as at open() it does", x.safety(1), 2);
     }
 
     /** Power, then the cause, then each arm that goes by its number; one that brakes stands without an event. */

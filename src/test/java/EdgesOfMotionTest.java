@@ -2,6 +2,7 @@
 public final class EdgesOfMotionTest {
     public static void main(String[] args) {
         halves();
+        belowHalves();
         wholeTurns();
         drawnIn();
         noNeighbours();
@@ -9,7 +10,9 @@ public final class EdgesOfMotionTest {
         heldAndOtherArms();
         sparedAlone();
         theLastSpared();
+        barelyCrossed();
         steps();
+        sixJoints();
         theWholeRange();
         noFartherThanGoal();
         brakesDownwards();
@@ -39,6 +42,14 @@ public final class EdgesOfMotionTest {
         x.joint(0, 0, 0, 0, 1024);
         Due.is("one half", x.point(0, 1, 0), 755);
         Due.is("two halves", x.point(0, 2, 0), 1509);
+    }
+
+    /** One 1048576th less than a half goes down. */
+    private static void belowHalves() {
+        pointIs("412.19 and 5473.499999", 49, 5489, 5473, 412);
+        pointIs("73.499999", 1008, 2995, 73, 2994);
+        pointIs("-73.500001", 1040, 2995, -73, 2994);
+        pointIs("y of 73.499999", 16, 2995, 2994, 73);
     }
 
     private static void wholeTurns() {
@@ -168,6 +179,30 @@ public final class EdgesOfMotionTest {
         }
     }
 
+    /** The line from (0, 0) to (2, 1) and that from (1, 0) to (1, 1), each from either end. */
+    private static void barelyCrossed() {
+        int[][] slopes = {{0, 0, 228}, {2, 1, 2276}};
+        int[][] uprights = {{1, 0, 1024}, {1, 1, 3072}};
+        for (int[] s : slopes) {
+            for (int[] u : uprights) {
+                RobotCellHouse x = new RobotCellHouse();
+                x.arm(s[0], s[1], s[2], 0);
+                x.joint(0, 0, 0, 0, 2);
+                x.arm(u[0], u[1], u[2], 0);
+                x.joint(1, 0, 0, 0, 1);
+                Due.is("the slope's end", x.point(0, 1, 0) * 10 + x.point(0, 1, 1), 21 - 10 * s[0] - s[1]);
+                Due.is("lines that cross between their ends", x.touches(0, 0), 1);
+                Due.is("the other one", x.touches(1, 0), 1);
+            }
+        }
+        RobotCellHouse beside = new RobotCellHouse();
+        beside.arm(0, 0, 228, 0);
+        beside.joint(0, 0, 0, 0, 2);
+        beside.arm(1, 1, 1024, 0);
+        beside.joint(1, 0, 0, 0, 1);
+        Due.is("one that ends above the slope", beside.touches(0, 0), 0);
+    }
+
     /** The greatest step by trying each one, as the words say. */
     private static int stepDue(int s, int far, int speed, int gain) {
         for (int d = Math.min(speed, s + gain); d > 0; d--) {
@@ -213,6 +248,31 @@ public final class EdgesOfMotionTest {
         for (int[] p : paces) {
             for (int goal : goals) stepsTo(goal, p[0], p[1]);
         }
+    }
+
+    private static void sixJoints() {
+        RobotCellHouse x = new RobotCellHouse();
+        x.person(0, true);
+        x.arm(0, 0, 0, 0);
+        for (int j = 0; j < 6; j++) {
+            x.joint(0, 0, -100, 100, 50);
+            x.pace(0, j, 10, 10);
+        }
+        Due.program(x, 0, "to r: move 10, 20, 30, -10, -20, -30; end to s: move 0, 0, 0, 0, 0, 100; end");
+        x.open();
+        x.reset(0);
+        x.start(0, 0);
+        x.run(4);
+        int[] due = {10, 20, 30, -10, -20, -30};
+        for (int j = 0; j < 6; j++) Due.is("joint " + j, x.value(0, j), due[j]);
+        Due.eventsAre("six joints", x, "0:3(0,0) 4:8(0,4)");
+        x.start(0, 1);
+        x.run(2);
+        x.stop(0);
+        x.run(1);
+        int[] then = {0, 0, 10, 0, 0, -10};
+        for (int j = 0; j < 6; j++) Due.is("joint " + j + " braked", x.value(0, j), then[j]);
+        Due.is("it stands", x.state(0, 0), 0);
     }
 
     private static void theWholeRange() {

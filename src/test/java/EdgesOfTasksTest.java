@@ -7,6 +7,7 @@ public final class EdgesOfTasksTest {
         wrapAround();
         divisions();
         onlyIfItCounts();
+        deepestNumbers();
         states();
         sharedVariables();
         twentyOfEachKind();
@@ -19,9 +20,12 @@ public final class EdgesOfTasksTest {
         untils();
         lockNumbers();
         lockOrder();
+        longestIsTaskZero();
         locksFreedFromZero();
         lockedWhileFaulted();
         leastTask();
+        taskZeroAgain();
+        thirtyTwoRoutines();
         sixteenTasks();
         watchEdges();
         watchedRoutine();
@@ -31,6 +35,8 @@ public final class EdgesOfTasksTest {
         passedTries();
         finallyOnce();
         takesItsPlace();
+        leftAlone();
+        sixHundredTries();
         faultOfOneArm();
         errorOfFaulted();
         ownMoveAlone();
@@ -132,6 +138,10 @@ public final class EdgesOfTasksTest {
         value("0 and 1 / 0", 0);
         value("5 and 7", 1);
         value("5 and 0", 0);
+        value("5 - (0 and 1)", 5);
+        value("5 - (1 or 0)", 4);
+        value("5 - (1 and 0)", 5);
+        value("5 - (0 or 0)", 5);
         value("min and -1", 1);
         value("not min", 0);
         value("not 0", 1);
@@ -145,6 +155,21 @@ public final class EdgesOfTasksTest {
         fails("0 or 0 or 1 % 0", 1);
     }
 
+    /** Three numbers in hand in each of thirty ( .. ), and what errors in the innermost leave behind. */
+    private static void deepestNumbers() {
+        // Each turns 0 to 1 and 1 to 0.
+        for (int n = 28; n <= 30; n++) value("2 <= 2 - 1 * (".repeat(n) + "1" + ")".repeat(n), 1 - n % 2);
+        int due = 1;
+        for (int i = 0; i < 30; i++) due = 3 + 2 * due;
+        String sum = "3 + 2 * (".repeat(30) + "1" + ")".repeat(30);
+        value(sum, due);
+        String fault = "try: c = " + "7 * (1 + 9 * (".repeat(14) + "1 / 0" + "))".repeat(14) + "; catch: end ";
+        RobotCellHouse x = house("var c; to r: " + fault.repeat(8) + "c = " + sum + "; note c; end");
+        x.start(0, 0);
+        x.run(1);
+        Due.eventsAre("behind eight errors", x, "1:1(0," + due + ") 1:4(0,0)");
+    }
+
     private static void states() {
         RobotCellHouse x = house("to m: move 50; end to w: wait 3; end to u: until 0; end to t: take 0; take 1; wait 9; end "
                 + "to l: wait 1; take 0; end to f: wait 2; raise 1; end to e: end to y: while 1: end end");
@@ -153,6 +178,8 @@ public final class EdgesOfTasksTest {
         for (int r = 0; r < 8; r++) {
             Due.is("NONE", x.task(r, 0), 0);
             Due.is("arm of NONE", x.task(r, 1), -1);
+            Due.is("error of NONE", x.task(r, 2), 0);
+            Due.is("routines of NONE", x.task(r, 3), 0);
             Due.is("start " + r, x.start(0, r), r);
             Due.is("READY", x.task(r, 0), 1);
         }
@@ -348,6 +375,9 @@ public final class EdgesOfTasksTest {
         does("to r: free 7; end", 1, "1:5(0,9)");
         does("to r: take 7; free 7; free 7; end", 1, "1:5(0,9)");
         does("to r: take 6; free 7; end", 1, "1:5(0,9)");
+        does("to r: free 8; end", 1, "1:5(0,9)");
+        does("to r: free -1; end", 1, "1:5(0,9)");
+        does("to r: free -2147483647 - 1; end", 1, "1:5(0,9)");
         // A lock that another task holds is none that it holds.
         RobotCellHouse x = house("to r: take 3; wait 9; end to s: free 3; end");
         x.start(0, 0);
@@ -374,6 +404,16 @@ public final class EdgesOfTasksTest {
         Due.is("its turn was ahead of that", x.task(1, 0), 5);
         x.run(2);
         Due.is("free", x.lock(0), -1);
+    }
+
+    /** Task 0 waits longest, and others wait, too. */
+    private static void longestIsTaskZero() {
+        RobotCellHouse x = house("to w: wait 1; take 2; wait 9; end to h: take 2; wait 4; end to l: wait 2; take 2; wait 9; end");
+        for (int r = 0; r < 3; r++) x.start(0, r);
+        x.run(4);
+        Due.is("both wait", x.task(0, 0) * 10 + x.task(2, 0), 55);
+        x.run(1);
+        Due.is("the one that waits longest", x.lock(2), 0);
     }
 
     /** Whoever waits for lock 0 holds it, and so on, when a task ends with several. */
@@ -425,6 +465,30 @@ public final class EdgesOfTasksTest {
         Due.is("READY again", x.task(1, 0), 1);
         Due.is("the least again", x.start(0, 0), 2);
         Due.is("NONE", x.start(0, 0), 4);
+    }
+
+    /** What task 0 was is not in the next one of that number. */
+    private static void taskZeroAgain() {
+        RobotCellHouse x = house("to r: watch 0, w; try: raise 7; catch: end take 1; end to s: wait 1; run t; note 1; end "
+                + "to t: note error; set 0, 1; note 2; take 1; end to w: note 9; end");
+        x.start(0, 0);
+        x.start(0, 1);
+        x.run(2);
+        Due.is("run begins task 0", x.task(0, 0), 1);
+        x.run(1);
+        Due.eventsAre("task 0 again", x, "1:4(0,0) 2:1(1,1) 2:4(1,0) 3:1(0,0) 3:1(0,2) 3:4(0,0)");
+    }
+
+    /** The last routine of 32, behind call, run and watch, and by start(). */
+    private static void thirtyTwoRoutines() {
+        StringBuilder text = new StringBuilder("to r0: call r31; run r31; watch 0, r31; set 0, 1; note 0; end ");
+        for (int i = 1; i < 32; i++) text.append("to r").append(i).append(": note ").append(i).append("; end ");
+        RobotCellHouse x = house(text.toString());
+        x.start(0, 0);
+        Due.is("start of routine 31", x.start(0, 31), 1);
+        Due.is("start of routine 32", x.start(0, 32), BAD);
+        x.run(2);
+        Due.eventsAre("routine 31", x, "1:1(0,31) 1:1(0,31) 1:1(0,0) 1:4(0,0) 1:1(1,31) 1:4(1,0) 2:1(2,31) 2:4(2,0)");
     }
 
     private static void sixteenTasks() {
@@ -539,6 +603,13 @@ public final class EdgesOfTasksTest {
         x.run(5);
         Due.is("drop of none", x.task(0, 2), 7);
         Due.is("it lies", x.about(0, 0), 8);
+        RobotCellHouse z = built("to r: grip; try: grip; catch: note error; end end");
+        z.lay(100, 0, 1);
+        z.lay(100, 0, 1);
+        z.open();
+        z.start(0, 0);
+        z.run(1);
+        Due.eventsAre("it holds part 0 already", z, "1:6(0,0) 1:1(0,7) 1:4(0,0)");
         RobotCellHouse y = built("to r: grip; end");
         y.lay(100, 1, 800);
         y.open();
@@ -590,6 +661,39 @@ public final class EdgesOfTasksTest {
                 "1:1(0,7) 1:1(0,8) 1:4(0,0)");
         does("to r: try: raise 1; finally: raise 2; note 7; end end", 1, "1:5(0,2)");
         does("to r: try: finally: raise 2; end end", 1, "1:5(0,2)");
+        // A finally that has begun is done once, and its own catch is over.
+        does("to r: try: note 1; catch: note 9; finally: note 4; raise 2; end end", 1, "1:1(0,1) 1:1(0,4) 1:5(0,2)");
+        does("to r: try: raise 1; catch: note 3; finally: note 4; raise 2; end end", 1, "1:1(0,3) 1:1(0,4) 1:5(0,2)");
+        does("to r: try: return; catch: note 9; finally: note 4; raise 2; end end", 1, "1:1(0,4) 1:5(0,2)");
+    }
+
+    /** A return leaves the tries of its own routine alone, a break those within its while. */
+    private static void leftAlone() {
+        does("to r: try: call s; note 1; finally: note 2; end note 3; end to s: return; end", 1,
+                "1:1(0,1) 1:1(0,2) 1:1(0,3) 1:4(0,0)");
+        does("to r: try: call s; note 1; catch: note 9; end end to s: try: return; finally: note 5; end end", 1,
+                "1:1(0,5) 1:1(0,1) 1:4(0,0)");
+        does("to r: try: call s; note 1; finally: note 2; end end to s: while 1: break; end note 6; end", 1,
+                "1:1(0,6) 1:1(0,1) 1:1(0,2) 1:4(0,0)");
+        does("to r: try: call s; finally: note 2; end end to s: while 1: try: break; finally: note 5; end end note 6; end", 1,
+                "1:1(0,5) 1:1(0,6) 1:1(0,2) 1:4(0,0)");
+        does("to r: try: while 1: break; end note 1; finally: note 2; end end", 1, "1:1(0,1) 1:1(0,2) 1:4(0,0)");
+        does("to r: try: end while 1: try: break; finally: note 5; end end raise 3; end", 1, "1:1(0,5) 1:5(0,3)");
+        does("to r: try: end try: catch: end while 1: try: break; catch: note 9; end end raise 3; end", 1, "1:5(0,3)");
+    }
+
+    /** Twenty routines with thirty tries each, all under way: a call too many is caught by one behind the other. */
+    private static void sixHundredTries() {
+        RobotCellHouse x = house("var b; to r: " + "try: ".repeat(30) + "call r; "
+                + "catch: b = b + 1; raise error + 1; end ".repeat(30) + "end");
+        x.start(0, 0);
+        x.run(30);
+        Due.is("all are under way", x.task(0, 3), 20);
+        Due.is("none has caught any", x.variable(0, 0), 0);
+        // 20 times 31 statements, then two for each catch.
+        x.run(61);
+        Due.is("each caught one", x.variable(0, 0), 600);
+        Due.eventsAre("six hundred tries", x, "91:5(0,608)");
     }
 
     private static void takesItsPlace() {
@@ -652,5 +756,13 @@ public final class EdgesOfTasksTest {
         Due.is("it brakes still", x.task(0, 0), 2);
         x.run(3);
         Due.eventsAre("its own move", x, "0:3(0,0) 2:1(1,4) 2:4(1,0) 2:9(0,0) 5:1(0,6) 5:4(0,0)");
+        // It is an error once.
+        RobotCellHouse y = house("to r: try: move 50; catch: note error; end wait 1; note 1; wait 1; note 2; end");
+        y.reset(0);
+        y.start(0, 0);
+        y.run(1);
+        y.stop(-1);
+        y.run(3);
+        Due.eventsAre("an error once", y, "0:3(0,0) 1:2(4,0) 1:9(0,0) 2:1(0,6) 3:1(0,1) 4:1(0,2) 4:4(0,0)");
     }
 }

@@ -22,6 +22,7 @@ public final class EdgesOfTextsTest {
         breaks();
         namesOfRoutines();
         answers();
+        nothingIsLeft();
         Due.end();
     }
 
@@ -304,6 +305,33 @@ public final class EdgesOfTextsTest {
         bad("to r: watch 0, @t; end to s: end", 5);
         bad("var t; to r: call @t; end", 5);
         bad("var t; to r: watch t, @t; end", 5);
+    }
+
+    /** A text is read as if none had been read before it. */
+    private static void nothingIsLeft() {
+        RobotCellHouse x = house();
+        Due.is("a fault within much", Due.program(x, 0, "to r: " + "try: ".repeat(30) + "$"), -10 - 156);
+        Due.is("as much again", Due.program(x, 0, "to r: " + "try: ".repeat(30) + "end ".repeat(31)), 1);
+        Due.is("a fault within a while", Due.program(x, 0, "to r: while 1: while 1: $"), -10 - 24);
+        Due.is("break in none", Due.program(x, 0, "to r: break; end"), -10 - 6);
+        Due.is("a name told in a faulty text", Due.program(x, 0, "var a; to b: $"), -10 - 13);
+        Due.is("is not told", Due.program(x, 0, "to r: note a; end"), -10 - 11);
+        Due.is("nor a routine", Due.program(x, 0, "to r: call b; end"), -10 - 11);
+        Due.is("both can be told", Due.program(x, 0, "var a; to b: end"), 1);
+        Due.is("a fault within a try", Due.program(x, 0, "to r: try: try: $"), -10 - 16);
+        Due.program(x, 0, "to r: while 1: try: break; finally: note 1; end end raise 2; end");
+        x.open();
+        x.start(0, 0);
+        x.run(1);
+        Due.eventsAre("a break behind it", x, "1:1(0,1) 1:5(0,2)");
+        RobotCellHouse y = house();
+        String sum = "a=" + "-".repeat(30) + "1;";
+        for (int i = 0; i < 2; i++) Due.is("a whole tape", Due.program(y, 0, "var a;to r:" + sum.repeat(117) + "end"), 1);
+        Due.is("and another text", Due.program(y, 0, "var a;to r:" + sum.repeat(5) + "note a+6;end"), 1);
+        y.open();
+        y.start(0, 0);
+        y.run(1);
+        Due.eventsAre("behind two whole tapes", y, "1:1(0,7) 1:4(0,0)");
     }
 
     /** -10 less the place, which may be 0; the tape is empty then, and the program stays. */

@@ -5,6 +5,7 @@ public final class EdgesOfWaysTest {
     public static void main(String[] args) {
         nodesFromItsValues();
         thousandNodes();
+        nodesOnBothSides();
         exactMargin();
         everyValueOfAStep();
         othersMayTouch();
@@ -12,13 +13,20 @@ public final class EdgesOfWaysTest {
         sparedOnTheWay();
         holdingOnTheWay();
         otherArmsAsTheyAre();
+        armZeroInTheWay();
+        upAheadOfDown();
+        aroundAStep();
+        notBeyondItsLimits();
+        lastJointInTheWay();
         fewestThenFirst();
         aimsOfItsJoints();
         whatIsAskedFirst();
         noneOfTheSixty();
         whenTravelIsRefused();
         movesOfATravel();
+        otherJointsStay();
         tripOnTheWay();
+        noMoveOfATask();
         staleOnTheWay();
         wayOfEachArm();
         endsOfTheBook();
@@ -80,6 +88,30 @@ public final class EdgesOfWaysTest {
         // So many that they are 0 in 32 bits: 65536 by 65536.
         Due.is("wrapped around", planOf(1, 65535, 65535), FULL);
         Due.is("wrapped around by 16", planOf(16, 16 * 4095, 16 * 4095, 16 * 4095), FULL);
+    }
+
+    /** How many nodes there are depends on where the arm is. */
+    private static void nodesOnBothSides() {
+        RobotCellHouse x = turn(0, 999);
+        x.open();
+        x.hand(0, 0, 999);
+        Due.is("1000 below it", planTo(x, 0, 1), 999);
+        x.hand(0, 0, 500);
+        Due.is("around it", planTo(x, 999, 1), 499);
+        RobotCellHouse y = turn(-999, 0);
+        y.open();
+        y.hand(0, 0, -999);
+        Due.is("1000 above it", planTo(y, 0, 1), 999);
+        // From 0 there are 501 by two, from 1 there are 500.
+        RobotCellHouse z = new RobotCellHouse();
+        z.arm(0, 0, 0, 0);
+        z.joint(0, 0, 0, 1000, 100);
+        z.joint(0, 0, 0, 2, 100);
+        z.open();
+        Due.is("501 by two", z.plan(0, 2, 0), FULL);
+        z.hand(0, 0, 1);
+        z.aim(0, 1);
+        Due.is("500 by two", z.plan(0, 2, 0), 0);
     }
 
     private static void exactMargin() {
@@ -187,6 +219,93 @@ public final class EdgesOfWaysTest {
         Due.is("drawn in it is not", x.plan(0, 16, 10), 4);
     }
 
+    private static void armZeroInTheWay() {
+        RobotCellHouse x = new RobotCellHouse();
+        x.arm(203, 60, 3072, 0);
+        x.joint(0, 1, -50, 0, 50);
+        x.arm(100, 0, 0, 0);
+        x.joint(1, 0, 0, 64, 100);
+        x.open();
+        Due.is("too near at its first node", x.plan(1, 16, 11), NO);
+        x.aim(0, 64);
+        Due.is("too near on its way", x.plan(1, 16, 10), NO);
+        Due.is("near enough", x.plan(1, 16, 0), 4);
+        x.hand(0, 0, -50);
+        Due.is("drawn in", x.plan(1, 16, 11), 4);
+    }
+
+    private static void stepsAre(String what, RobotCellHouse x, int... due) {
+        Due.is(what + ": how many", x.state(0, 5), due.length);
+        for (int k = 0; k < due.length; k++) Due.is(what + ": step " + k, x.step(0, k), due[k]);
+    }
+
+    /** Two turns, stretched out towards a ball: joint 0 has to give way, up or down alike. */
+    private static RobotCellHouse givesWay(int low, int high) {
+        RobotCellHouse x = new RobotCellHouse();
+        x.arm(0, 0, 0, 0);
+        x.joint(0, 0, low, high, 1000);
+        x.joint(0, 0, -32, 32, 1000);
+        x.ball(2003, 0, 3);
+        x.open();
+        x.hand(0, 1, -32);
+        x.aim(1, 32);
+        return x;
+    }
+
+    private static void upAheadOfDown() {
+        RobotCellHouse x = givesWay(-32, 32);
+        Due.is("from -32 to 32", x.plan(0, 16, 0), 6);
+        stepsAre("up, and down as soon as it may", x, 0, 2, 2, 2, 1, 2);
+    }
+
+    /** The straight step to a free node meets a ball half way: another one comes to that node all the same. */
+    private static void aroundAStep() {
+        RobotCellHouse x = new RobotCellHouse();
+        x.arm(0, 0, 0, 0);
+        x.joint(0, 1, -16, 0, 100);
+        x.joint(0, 0, 0, 16, 7000);
+        x.ball(7102, 86, 4);
+        x.open();
+        for (int v = 0; v <= 16; v++) {
+            x.hand(0, 1, v);
+            Due.is("touched at " + v, x.touches(0, 0), v == 8 ? 1 : 0);
+        }
+        x.hand(0, 1, 0);
+        x.aim(1, 16);
+        Due.is("drawn in, turned, drawn out", x.plan(0, 16, 0), 3);
+        stepsAre("around it", x, 1, 2, 0);
+        Due.is("by eight the node is touched", x.plan(0, 8, 0), 4);
+        stepsAre("around the node", x, 1, 2, 2, 0);
+    }
+
+    private static void notBeyondItsLimits() {
+        RobotCellHouse x = givesWay(-32, 0);
+        Due.is("down alone", x.plan(0, 16, 0), 6);
+        // At 16 its end would meet the ball on the way up: it has to turn on first.
+        stepsAre("down, and up as soon as it may", x, 1, 2, 2, 2, 2, 0);
+        RobotCellHouse y = givesWay(0, 0);
+        Due.is("neither", y.plan(0, 16, 0), NO);
+        RobotCellHouse z = givesWay(-15, 15);
+        Due.is("not by a whole step", z.plan(0, 16, 0), NO);
+    }
+
+    /** Only joint 2 meets the ball: what is looked at is the arm with that joint on its way. */
+    private static void lastJointInTheWay() {
+        for (int up = 0; up < 2; up++) {
+            RobotCellHouse x = new RobotCellHouse();
+            x.arm(0, 0, 0, 0);
+            x.joint(0, 0, 0, 0, 100);
+            x.joint(0, 0, 0, 0, 100);
+            x.joint(0, 0, -64, 64, 100);
+            x.ball(300, up == 1 ? 5 : -5, 2);
+            x.open();
+            x.aim(2, 64);
+            Due.is("joint 2 up", x.plan(0, 16, 0), up == 1 ? NO : 4);
+            x.aim(2, -64);
+            Due.is("joint 2 down", x.plan(0, 16, 0), up == 1 ? 4 : NO);
+        }
+    }
+
     /** Of ways of as few steps the first one: joint 0 up, joint 0 down, joint 1 up, joint 1 down. */
     private static void fewestThenFirst() {
         int[][] aims = {{2, 2}, {-2, 2}, {2, -2}, {-2, -2}};
@@ -209,6 +328,9 @@ public final class EdgesOfWaysTest {
         Due.is("six joints", six.plan(0, 1, 0), 6);
         int[] due = {1, 2, 5, 6, 9, 10};
         for (int k = 0; k < 6; k++) Due.is("step " + k + " of six", six.step(0, k), due[k]);
+        for (int j = 0; j < 6; j++) six.aim(j, j % 2 == 0 ? 1 : -1);
+        Due.is("six joints, the other way", six.plan(0, 1, 0), 6);
+        stepsAre("six joints, the other way", six, 0, 3, 4, 7, 8, 11);
     }
 
     /** Aims of joints that the arm has not do not count. */
@@ -263,9 +385,11 @@ public final class EdgesOfWaysTest {
         for (int i = 0; i < 70; i++) Due.is("too many nodes", x.plan(0, 1, 0), FULL);
         for (int i = 0; i < 20; i++) Due.is("no aim", planTo(x, -1, 16), NO);
         for (int i = 0; i < 20; i++) Due.is("no node", planTo(x, 1, 16), NO);
-        for (int i = 0; i < 20; i++) Due.is("plan " + i, planTo(x, 0, 16), 0);
+        for (int i = 0; i < 19; i++) Due.is("plan " + i, planTo(x, 0, 16), 0);
+        Due.is("the 60th", planTo(x, 48, 16), 3);
         Due.is("the 61st", x.plan(0, 16, 0), FULL);
-        Due.is("it has its way", x.state(0, 5), 0);
+        Due.is("it has its way", x.state(0, 5), 3);
+        Due.is("its last step", x.step(0, 2), 0);
         x.aim(0, -1);
         Due.is("FULL ahead of the aims", x.plan(0, 16, 0), FULL);
     }
@@ -345,6 +469,41 @@ public final class EdgesOfWaysTest {
         Due.is("four steps alike", movesTo(-64, 0), 1);
         Due.is("of both joints", movesTo(64, -64), 2);
         Due.is("one and four", movesTo(-16, 64), 2);
+    }
+
+    /** A joint without steps stays where a hand, or a broken move, has left it. */
+    private static void otherJointsStay() {
+        RobotCellHouse x = new RobotCellHouse();
+        x.person(0, true);
+        x.arm(0, 0, 0, 0);
+        for (int j = 0; j < 6; j++) x.joint(0, 0, -20, 20, 100);
+        x.open();
+        int[] values = {1, -2, 3, -4, 5, -6};
+        for (int moved = 0; moved < 6; moved++) {
+            x.back(0);
+            for (int j = 0; j < 6; j++) x.hand(0, j, values[j]);
+            for (int j = 0; j < 6; j++) x.aim(j, values[j] + (j == moved ? 14 : 0));
+            x.plan(0, 14, 0);
+            x.reset(0);
+            Due.is("travel", x.travel(0), 1);
+            x.run(9);
+            for (int j = 0; j < 6; j++) Due.is("joint " + j, x.value(0, j), values[j] + (j == moved ? 14 : 0));
+        }
+    }
+
+    /** A travel is no move of a task: that it is broken is no error of task 0. */
+    private static void noMoveOfATask() {
+        RobotCellHouse x = turn(-100, 100);
+        Due.program(x, 0, "to r: wait 3; note 1; end");
+        x.open();
+        x.reset(0);
+        planTo(x, 96, 16);
+        x.travel(0);
+        x.start(0, 0);
+        x.run(1);
+        x.stop(0);
+        x.run(4);
+        Due.eventsAre("a broken travel", x, "0:3(0,0) 1:9(0,0) 4:1(0,1) 4:4(0,0)");
     }
 
     private static void tripOnTheWay() {

@@ -24,9 +24,9 @@ public final class PlacesTest {
     }
 
     private static void allAngles() {
-        for (int block = 0; block < 4096; block += 128) {
+        for (int block = 0; block < 4096; block += 64) {
             RobotCellHouse x = new RobotCellHouse();
-            for (int d = block; d < block + 128; d += 4) {
+            for (int d = block; d < block + 64; d += 4) {
                 x.build();
                 for (int a = 0; a < 4; a++) {
                     x.arm(3, -5, d + a, 0);
