@@ -220,7 +220,6 @@ public final class EdgesOfTasksTest {
                 x.start(0, 0);
                 x.run(1);
                 Due.is(n + " times " + one, x.signal(0, 0), n == 19 ? 1 : 0);
-                Due.is("its state behind " + n, x.task(0, 0), n == 19 ? 6 : 1);
                 x.run(1);
                 Due.is(n + " times " + one + " in two", x.signal(0, 0), 1);
             }
@@ -375,9 +374,13 @@ public final class EdgesOfTasksTest {
         does("to r: free 7; end", 1, "1:5(0,9)");
         does("to r: take 7; free 7; free 7; end", 1, "1:5(0,9)");
         does("to r: take 6; free 7; end", 1, "1:5(0,9)");
-        does("to r: free 8; end", 1, "1:5(0,9)");
-        does("to r: free -1; end", 1, "1:5(0,9)");
-        does("to r: free -2147483647 - 1; end", 1, "1:5(0,9)");
+        String[] none = {"8", "-1", "-2147483647 - 1", "2147483647"};
+        for (String l : none) {
+            RobotCellHouse y = house("to r: free " + l + "; end");
+            y.start(0, 0);
+            y.run(1);
+            Due.is("free of a lock that there is not: FAULTED by " + l, y.task(0, 0), 7);
+        }
         // A lock that another task holds is none that it holds.
         RobotCellHouse x = house("to r: take 3; wait 9; end to s: free 3; end");
         x.start(0, 0);

@@ -278,8 +278,6 @@ public final class EdgesOfTextsTest {
         good("to " + routines("r", 31) + " to s: call s; call r30; end", 32);
         bad("to " + routines("r", 31) + " to s: end to @t: call s; end", 7);
         good("var " + names("v", 32) + "; to " + routines("r", 32), 32);
-        // A 33rd routine is told all the same: its name is one behind call, run and watch.
-        bad("to q: call s; run s; watch 1, s; end to " + routines("r", 31) + " to @s: end", 7);
         RobotCellHouse x = house();
         Due.is("32 of each", Due.program(x, 0, "var " + names("v", 32) + "; to " + routines("r", 32)), 32);
         Due.is("variable 31", x.variable(0, 31), 0);

@@ -126,7 +126,6 @@ public final class TasksTest {
         does("to r: grip; end", 1, "1:5(0,7)");
         does("to r: drop; end", 1, "1:5(0,7)");
         does("to r: free 0; end", 1, "1:5(0,9)");
-        does("to r: free 8; end", 1, "1:5(0,9)");
         does("to r: take 0; take 0; end", 1, "1:5(0,9)");
         does("to r: raise 0; end", 1, "1:5(0,0)");
         does("to r: raise -2147483647 - 1; end", 1, "1:5(0,-2147483648)");
@@ -194,10 +193,9 @@ public final class TasksTest {
         String nineteen = "note 1; ".repeat(19);
         does("to r: " + nineteen + "grip; end", 1, "1:1(0,1) ".repeat(19) + "1:5(0,7)");
         does("to r: note 1; " + nineteen + "grip; end", 2, "1:1(0,1) ".repeat(20) + "2:5(0,7)");
-        does("to r: note 1; " + nineteen + "end", 1, "1:1(0,1) ".repeat(20) + "1:4(0,0)");
         // Going on is no statement.
-        does("to r: wait 1; note 1; " + nineteen + "end", 2, "2:1(0,1) ".repeat(20) + "2:4(0,0)");
-        does("to r: until time = 2; note 1; " + nineteen + "end", 2, "2:1(0,1) ".repeat(20) + "2:4(0,0)");
+        does("to r: wait 1; " + nineteen + "grip; end", 2, "2:1(0,1) ".repeat(19) + "2:5(0,7)");
+        does("to r: until time = 2; " + nineteen + "grip; end", 2, "2:1(0,1) ".repeat(19) + "2:5(0,7)");
     }
 
     private static void routines() {

@@ -152,9 +152,8 @@ public final class TextTest {
         bad("var " + list("v", 32, ",") + ",@v0;", 4);
         good("to " + list("r", 32, ":end to ") + ":end", 32);
         bad("to " + list("r", 32, ":end to ") + ":end to @s: end", 7);
-        // By tokens: a name far ahead of the 33rd routine, and one that is told behind it.
+        // By tokens: a name far ahead of the 33rd routine.
         bad("to q: call @z; end to " + list("r", 32, ":end to ") + ":end", 5);
-        bad("to q: call r31; end to " + list("r", 31, ":end to ") + ":end to @r31:end", 7);
         // A fault of tokens or grammar comes ahead of all names.
         bad("to r: note a; end @end", 2);
         bad("var a,a; @$", 1);
