@@ -129,6 +129,24 @@ public final class EdgesOfCellTest {
         x.run(1);
         Due.is("gone on", x.signal(1, 0), 0);
         Due.is("no more rises", x.signal(1, 2), 1);
+        // The sensor sets an own number: that of a wired or a forced point is not its value.
+        RobotCellHouse y = new RobotCellHouse();
+        y.belt(0, 0, 0, 1000, 0);
+        y.belt(0, 0, 0, 1000, 0);
+        y.part(0, 5, 0);
+        y.part(1, 5, 0);
+        y.sensor(0, 1, 0, 9);
+        y.sensor(1, 2, 0, 9);
+        y.wire(0, 1, false);
+        y.open();
+        y.force(2, 0, true);
+        y.run(1);
+        Due.is("own number of a wired one", y.signal(1, 1), 1);
+        Due.is("its value", y.signal(1, 0), 0);
+        Due.is("own number of a forced one", y.signal(2, 1), 1);
+        Due.is("its value, too", y.signal(2, 0), 0);
+        y.force(2, 0, false);
+        Due.is("a rise when it is forced no more", y.signal(2, 2), 1);
     }
 
     private static void forcedAheadOfWired() {

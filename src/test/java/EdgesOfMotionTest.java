@@ -18,6 +18,7 @@ public final class EdgesOfMotionTest {
         brakesDownwards();
         brakesAtOnce();
         brakesJointByJoint();
+        fromRestAgain();
         Due.end();
     }
 
@@ -340,6 +341,27 @@ public final class EdgesOfMotionTest {
         y.run(1);
         Due.is("it stands then", y.state(0, 0), 0);
         Due.is("where it was", y.value(0, 0), 90);
+    }
+
+    /** Behind a trip all steps are 0: the next move begins as the first one did. */
+    private static void fromRestAgain() {
+        RobotCellHouse x = mover(-1000, 1000, 100, 10, "to r: try: move 1000; catch: end move 0; end");
+        x.start(0, 0);
+        x.run(4);
+        Due.is("10 + 20 + 30 + 40", x.value(0, 0), 100);
+        x.stop(-1);
+        x.reset(0);
+        int[] due = {90, 70, 40, 17, 4, 0, 0};
+        int[] steps = {10, 20, 30, 23, 13, 4, 0};
+        int at = 100;
+        for (int i = 0; i < due.length; i++) {
+            x.run(1);
+            int step = at - x.value(0, 0);
+            at = x.value(0, 0);
+            Due.is("value in tick " + x.time(), at, due[i]);
+            Due.is("step in tick " + x.time(), step, steps[i]);
+        }
+        Due.is("it stands", x.state(0, 0), 0);
     }
 
     private static void brakesJointByJoint() {

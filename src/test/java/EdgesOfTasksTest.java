@@ -38,6 +38,7 @@ public final class EdgesOfTasksTest {
         leftAlone();
         sixHundredTries();
         faultOfOneArm();
+        faultWhileBraking();
         errorOfFaulted();
         ownMoveAlone();
         Due.end();
@@ -729,6 +730,30 @@ public final class EdgesOfTasksTest {
         Due.is("acknowledge again", x.acknowledge(0), NO);
         x.run(1);
         Due.is("they have turns again", x.events(), 10);
+    }
+
+    /** The arm brakes if it goes: not one that brakes already, nor one that stands. */
+    private static void faultWhileBraking() {
+        RobotCellHouse x = house("to m: move 50; end to f: wait 3; raise 3; end");
+        x.reset(0);
+        x.start(0, 0);
+        x.start(0, 1);
+        x.run(3);
+        Due.is("it goes", x.state(0, 0), 1);
+        x.stop(0);
+        x.run(1);
+        Due.is("it brakes on", x.state(0, 0), 2);
+        Due.eventsAre("a fault while braking", x, "0:3(0,0) 3:9(0,0) 4:5(1,3)");
+        RobotCellHouse y = house("to m: move 50; end to f: wait 3; raise 3; end");
+        y.reset(0);
+        y.start(0, 0);
+        y.start(0, 1);
+        y.run(4);
+        Due.is("it begins to brake", y.state(0, 0), 2);
+        Due.eventsAre("a fault while going", y, "0:3(0,0) 4:5(1,3) 4:9(0,0)");
+        y.run(9);
+        Due.is("it stands, though none of its tasks has turns", y.state(0, 0), 0);
+        Due.is("the task waits still", y.task(0, 0), 2);
     }
 
     private static void errorOfFaulted() {
